@@ -1,0 +1,112 @@
+import java.lang.reflect.Field;
+import java.lang.reflect.Member;
+import java.lang.reflect.Method;
+import java.lang.reflect.Modifier;
+import java.util.ArrayList;
+import java.util.List;
+import java.util.TreeSet;
+
+/** The public face, as the document has it, and nothing else. */
+public final class FaceTest {
+    private static final String[] FACE = {
+        "int begin(int) IllegalArgumentException",
+        "int load(int, int) IllegalArgumentException IllegalStateException",
+        "int loadDrawn(int, int, int) IllegalArgumentException",
+        "int empty()",
+        "int merge(int, int) NoSuchElementException IllegalArgumentException",
+        "int mergeLightest() IllegalStateException",
+        "int storm(int) IllegalArgumentException",
+        "int tighten(int) NoSuchElementException",
+        "int land(int) NoSuchElementException IllegalStateException",
+        "int parcel(int, int) IndexOutOfBoundsException IllegalArgumentException",
+        "int run(int, int) NoSuchElementException IllegalArgumentException",
+        "int inRun(int, int) NoSuchElementException IndexOutOfBoundsException",
+        "int ashore(int) IndexOutOfBoundsException",
+        "int runAt(int) IndexOutOfBoundsException",
+        "int value(int) IllegalArgumentException",
+        "int nextThrown()",
+        "int runsIfEmptied()",
+        "int costByWeight()",
+        "int costByNumber()",
+        "int runsWith(int) IllegalArgumentException",
+        "int leastRoom()",
+        "int inversions()",
+        "int append(int) IllegalArgumentException IllegalStateException",
+        "int clearText()",
+        "int carryOut()",
+        "int undo() IllegalStateException",
+        "long digest()",
+    };
+
+    public static void main(String[] args) {
+        Class<?> face = BoatRuns.class;
+        Check.isTrue("public final", Modifier.isPublic(face.getModifiers()) && Modifier.isFinal(face.getModifiers()));
+        Check.same("the package", face.getPackageName(), "");
+        Check.same("methods", methods(face), new TreeSet<>(List.of(FACE)).toString());
+        Check.same("constants", constants(face), "[NONE]");
+        Check.same("NONE", BoatRuns.NONE, -1);
+        Check.same("constructors", face.getConstructors().length, 1);
+        Check.same("all constructors", face.getDeclaredConstructors().length, 1);
+        Check.same("its arguments", face.getConstructors()[0].getParameterCount(), 0);
+        namesInside(face);
+        Check.finish();
+    }
+
+    private static String methods(Class<?> face) {
+        TreeSet<String> seen = new TreeSet<>();
+        for (Method method : face.getDeclaredMethods()) {
+            if (isSeen(method)) {
+                seen.add(told(method));
+            }
+        }
+        return seen.toString();
+    }
+
+    private static boolean isSeen(Member member) {
+        return !Modifier.isPrivate(member.getModifiers()) && !member.isSynthetic();
+    }
+
+    private static String told(Method method) {
+        List<String> arguments = new ArrayList<>();
+        for (Class<?> type : method.getParameterTypes()) {
+            arguments.add(type.getSimpleName());
+        }
+        StringBuilder all = new StringBuilder();
+        all.append(method.getReturnType().getSimpleName()).append(' ').append(method.getName());
+        all.append('(').append(String.join(", ", arguments)).append(')');
+        for (Class<?> type : method.getExceptionTypes()) {
+            all.append(' ').append(type.getSimpleName());
+        }
+        return all.toString();
+    }
+
+    private static String constants(Class<?> face) {
+        TreeSet<String> seen = new TreeSet<>();
+        for (Field field : face.getDeclaredFields()) {
+            if (isSeen(field)) {
+                seen.add(field.getName());
+            }
+        }
+        return seen.toString();
+    }
+
+    /** The classes inside are static, and no private method bears the name of a public one. */
+    private static void namesInside(Class<?> face) {
+        TreeSet<String> names = new TreeSet<>();
+        for (Method method : face.getMethods()) {
+            names.add(method.getName());
+        }
+        for (Method method : face.getDeclaredMethods()) {
+            Check.isTrue(method.getName(), isSeen(method) || !names.contains(method.getName()));
+        }
+        for (Class<?> inside : face.getDeclaredClasses()) {
+            int modifiers = inside.getModifiers();
+            Check.isTrue(inside.getName(), Modifier.isStatic(modifiers) && !Modifier.isPublic(modifiers)
+                    && !Modifier.isProtected(modifiers));
+            for (Method method : inside.getDeclaredMethods()) {
+                Check.isTrue(method.getName(), !Modifier.isPrivate(method.getModifiers())
+                        || !names.contains(method.getName()));
+            }
+        }
+    }
+}
