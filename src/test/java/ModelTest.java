@@ -2,6 +2,7 @@ import java.util.ArrayList;
 import java.util.LinkedList;
 import java.util.List;
 import java.util.NoSuchElementException;
+import java.util.PriorityQueue;
 import java.util.TreeMap;
 import java.util.TreeSet;
 import java.util.regex.Matcher;
@@ -284,7 +285,11 @@ public final class ModelTest {
         TreeSet<Parcel> row = new TreeSet<>();
 
         int weight() {
-            return row.stream().mapToInt(parcel -> parcel.weight).sum();
+            int sum = 0;
+            for (Parcel parcel : row) {
+                sum += parcel.weight;
+            }
+            return sum;
         }
 
         Run twin() {
@@ -517,7 +522,10 @@ public final class ModelTest {
         int parcel(int number, int what) {
             index(number, now.loaded.size());
             argument(within(what, 0, 4));
-            Parcel parcel = now.loaded.get(number);
+            return facts(now.loaded.get(number))[what];
+        }
+
+        private int[] facts(Parcel parcel) {
             int home = -1;
             TreeSet<Parcel> row = now.shore.contains(parcel) ? now.shore : null;
             for (int run : now.runs.keySet()) {
@@ -528,14 +536,19 @@ public final class ModelTest {
             }
             int where = row == null ? 0 : home >= 0 ? 1 : 2;
             int place = row == null ? -1 : row.headSet(parcel).size();
-            return new int[] {parcel.key, parcel.weight, where, home, place}[what];
+            return new int[] {parcel.key, parcel.weight, where, home, place};
         }
 
         int run(int number, int what) {
-            Run run = existing(number);
+            existing(number);
             argument(within(what, 0, 5));
+            return facts(number)[what];
+        }
+
+        private int[] facts(int number) {
+            Run run = now.runs.get(number);
             return new int[] {run.row.size(), run.weight(), run.strength, run.row.first().key,
-                run.row.last().key, now.open == number ? 1 : 0}[what];
+                run.row.last().key, now.open == number ? 1 : 0};
         }
 
         int inRun(int number, int place) {
@@ -569,12 +582,21 @@ public final class ModelTest {
             return now.twin().empty();
         }
 
+        /** Pairs of weight and number; the lower number goes on, as it does in a merge. */
         int costByWeight() {
-            World w = now.twin();
-            while (w.runs.size() > 1) {
-                w.mergeLightest();
+            PriorityQueue<int[]> queue = new PriorityQueue<>(
+                    (a, b) -> a[0] != b[0] ? Integer.compare(a[0], b[0]) : Integer.compare(a[1], b[1]));
+            for (int number : now.runs.keySet()) {
+                queue.add(new int[] {now.runs.get(number).weight(), number});
             }
-            return w.costs - now.costs;
+            int sum = 0;
+            while (queue.size() > 1) {
+                int[] first = queue.remove();
+                int[] second = queue.remove();
+                sum += first[0] + second[0];
+                queue.add(new int[] {first[0] + second[0], Math.min(first[1], second[1])});
+            }
+            return sum;
         }
 
         int costByNumber() {
@@ -707,14 +729,14 @@ public final class ModelTest {
                 values.add(value(what));
             }
             for (Parcel parcel : now.loaded) {
-                for (int what = 0; what < 5; what++) {
-                    values.add(parcel(parcel.number, what));
+                for (int fact : facts(parcel)) {
+                    values.add(fact);
                 }
             }
             for (int number : now.runs.keySet()) {
                 values.add(number);
-                for (int what = 0; what < 6; what++) {
-                    values.add(run(number, what));
+                for (int fact : facts(number)) {
+                    values.add(fact);
                 }
             }
             values.add(nextThrown());
