@@ -665,7 +665,7 @@ public final class BoatRuns {
             int goneIndex = floats.indexOf(gone);
             runWeights.increase(keptIndex, runWeights.get(goneIndex));
             removeFloat(goneIndex);
-            if (open == kept) {
+            if (open == first || open == second) {
                 open = NONE;
             }
             int cost = runWeights.get(keptIndex);
@@ -683,9 +683,6 @@ public final class BoatRuns {
         }
 
         private void removeFloat(int runIndex) {
-            if (open == floats.get(runIndex)) {
-                open = NONE;
-            }
             floats.remove(runIndex);
             strengths.remove(runIndex);
             runWeights.remove(runIndex);
@@ -781,6 +778,9 @@ public final class BoatRuns {
         int bringAshore(int run) {
             move(run, ON_LAND);
             removeFloat(floats.indexOf(run));
+            if (open == run) {
+                open = NONE;
+            }
             return countAt(ON_LAND);
         }
 
@@ -860,9 +860,11 @@ public final class BoatRuns {
         }
     }
 
-    /** The saved states, the oldest one first. All places are made at once and used again. */
+    /** The saved states, in places that are made at once and used again in a ring. */
     private static final class History {
         private final Boat[] places;
+        /** The place of the state that is saved next; if all are in use, the oldest state is there. */
+        private int next;
         private int count;
 
         History() {
@@ -877,37 +879,26 @@ public final class BoatRuns {
         }
 
         void save(Boat boat) {
-            if (count >= places.length) {
-                dropOldest();
-            }
-            Boat place = placeAt(count);
+            Boat place = placeAt(next);
             if (place != null) {
                 place.copy(boat);
-                count++;
+                next = (next + 1) % MOST_SAVED;
+                count = Math.min(count + 1, MOST_SAVED);
             }
         }
 
         void restore(Boat boat) {
-            Boat place = placeAt(count - 1);
+            int newest = (next + MOST_SAVED - 1) % MOST_SAVED;
+            Boat place = placeAt(newest);
             if (place != null) {
                 boat.copy(place);
+                next = newest;
                 count--;
             }
         }
 
         private Boat placeAt(int index) {
             return index >= 0 && index < places.length ? places[index] : null;
-        }
-
-        private void dropOldest() {
-            Boat oldest = placeAt(0);
-            for (int i = 1; i < places.length; i++) {
-                places[i - 1] = places[i];
-            }
-            if (places.length > 0) {
-                places[places.length - 1] = oldest;
-                count--;
-            }
         }
     }
 

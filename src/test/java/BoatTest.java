@@ -3,6 +3,7 @@ public final class BoatTest {
     public static void main(String[] args) {
         newObject();
         begin();
+        beginForgetsRunsAndCounts();
         beginKeepsTextAndSavedStates();
         loadThrowsTheLeastThatFits();
         loadKeepsTiesAsTheyCame();
@@ -62,6 +63,23 @@ public final class BoatTest {
         Check.refused("2: begin(-1)", x, Check.ARGUMENT, () -> x.begin(-1));
         Check.refused("2: begin(MIN)", x, Check.ARGUMENT, () -> x.begin(Integer.MIN_VALUE));
         Check.refused("2: begin(MAX)", x, Check.ARGUMENT, () -> x.begin(Integer.MAX_VALUE));
+    }
+
+    private static void beginForgetsRunsAndCounts() {
+        BoatRuns x = new BoatRuns();
+        x.begin(1);
+        Check.makeRun(x, 1, 10, 20, 30);
+        x.storm(9);
+        Check.loadKeys(x, 40, 50);
+        x.tighten(0);
+        x.merge(0, 1);
+        x.tighten(0);
+        Check.same("2: values before", Check.values(x), "1 1 5 2 4 0 3 1 1 1 2 3");
+        x.begin(2);
+        Check.same("2: values then", Check.values(x), "2 0 0 0 0 0 0 0 0 0 -1 0");
+        Check.loadKeys(x, 60, 70);
+        Check.same("2: no run is open", x.load(80, 1), 0);
+        Check.same("2: a new float", Check.run(x, 0), "1 1 5 60 60 1");
     }
 
     private static void beginKeepsTextAndSavedStates() {
@@ -270,6 +288,12 @@ public final class BoatTest {
         x.merge(1, 0);
         Check.same("6: strength of the lower float", x.run(0, 2), 6);
         Check.refused("6: the other float is gone", x, Check.ELEMENT, () -> x.run(1, 0));
+        Check.makeRun(x, 1, 30);
+        x.tighten(2);
+        x.tighten(2);
+        Check.makeRun(x, 1, 40);
+        x.merge(0, 2);
+        Check.same("6: other floats keep their strength", strengths(x), "6 5");
     }
 
     private static void mergeClosesOnlyItsOwnRuns() {
@@ -451,7 +475,11 @@ public final class BoatTest {
         Check.makeRun(x, 2, 10, 20, 25);
         Check.makeRun(x, 3, 35, 60);
         Check.makeRun(x, 4, 50);
+        x.tighten(1);
+        x.tighten(3);
+        x.tighten(3);
         Check.same("10: any run is the first", x.land(1), 3);
+        Check.same("10: other floats keep their strength", strengths(x), "5 5 7");
         Check.same("10: ashore", Check.shore(x), "2 3 4");
         Check.same("10: runs", Check.runs(x), "0 2 3");
         Check.same("10: a parcel ashore", Check.parcel(x, 3), "20 2 2 -1 1");

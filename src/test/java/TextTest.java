@@ -76,11 +76,17 @@ public final class TextTest {
         Check.same("26: storm and merge", Check.carryOut(x, "s5;m2+0;"), 2);
         Check.same("26: values at last", Check.values(x), "4 0 2 1 2 0 110 2 2 2 -1 3");
         Check.same("26: the text stays", x.clearText(), 8);
-        Check.same("26: a weak storm", Check.carryOut(x, "s1;s2;s3;"), 3);
+        Check.same("26: strength 3 before", x.run(0, 2), 3);
+        Check.same("26: weak storms", Check.carryOut(x, "s3;s2;s1;"), 3);
+        Check.same("26: none broke", x.value(9), 2);
+        x.undo();
+        Check.same("26: one that is stronger", Check.carryOut(x, "s4;"), 1);
         Check.same("26: one broke", x.value(9), 3);
+        Check.same("26: a load and a storm", Check.carryOut(x, "p1,1;s1;"), 2);
+        Check.same("26: one parcel more", x.value(2), 3);
         Check.same("26: loads throw overboard", Check.carryOut(x, "p5,1;p6,2;p7,3;p8,4;p9,5;p0,6;"), 6);
         Check.same("26: the open run", x.value(10), 4);
-        Check.same("26: its row", Check.row(x, 4), "2 3");
+        Check.same("26: its row", Check.row(x, 4), "2 3 4");
     }
 
     private static void numbersWithZeros() {
