@@ -1,4 +1,6 @@
 import java.util.NoSuchElementException;
+import java.util.function.Consumer;
+import java.util.function.Supplier;
 
 /** What the tests share: comparing answers, expecting exceptions, and telling the result. */
 final class Check {
@@ -14,6 +16,10 @@ final class Check {
         void run();
     }
 
+    interface IntCall {
+        void run(BoatRuns x, int argument);
+    }
+
     private Check() {
     }
 
@@ -21,7 +27,7 @@ final class Check {
         checks++;
         if (got != due) {
             wrong++;
-            System.out.println(what + " answered " + got + ", due is " + due);
+            System.out.println(Doc.named() + what + " answered " + got + ", due is " + due);
         }
     }
 
@@ -29,7 +35,7 @@ final class Check {
         checks++;
         if (!got.equals(due)) {
             wrong++;
-            System.out.println(what + " answered " + got + ", due is " + due);
+            System.out.println(Doc.named() + what + " answered " + got + ", due is " + due);
         }
     }
 
@@ -53,22 +59,40 @@ final class Check {
         }
     }
 
-    /** All that can be seen of an object without changing it. */
+    /** What can be seen of an object without changing it; the digest takes in every parcel and every run. */
     static String picture(BoatRuns x) {
-        StringBuilder all = new StringBuilder();
-        all.append(x.digest()).append('|').append(values(x)).append('|');
-        for (int p = 0; p < x.value(2); p++) {
-            all.append(parcel(x, p)).append(';');
+        return x.digest() + "|" + values(x) + "|" + x.runsIfEmptied() + " " + x.costByNumber() + " "
+                + x.runsWith(1) + " " + x.leastRoom() + " " + x.inversions();
+    }
+
+    /** All of an object, down to the saved states and what stands in the text. It is spent then. */
+    static String story(BoatRuns x) {
+        StringBuilder all = new StringBuilder(picture(x));
+        boolean saved = true;
+        while (saved) {
+            saved = thrown(x::undo).equals("nothing");
+            all.append("|undo: ").append(picture(x));
         }
-        for (int i = 0; i < x.value(3); i++) {
-            int run = x.runAt(i);
-            all.append('|').append(run).append(':').append(run(x, run)).append(' ').append(row(x, run));
+        all.append("|text: ").append(x.carryOut()).append(' ').append(picture(x));
+        return all.append(' ').append(x.clearText()).toString();
+    }
+
+    /** On an object made so, the call throws exactly this exception, and nothing at all is changed. */
+    static void refusedOn(String what, Supplier<BoatRuns> made, Class<?> due, Consumer<BoatRuns> call) {
+        BoatRuns x = made.get();
+        same(what, thrown(() -> call.accept(x)), due.getSimpleName());
+        same(what + ", all of it then", story(x), story(made.get()));
+    }
+
+    /** The call takes a number from low to high, and refuses one that is just outside, or far out. */
+    static void range(Supplier<BoatRuns> made, int low, int high, Class<?> due, IntCall call) {
+        for (int inside : new int[] {low, Math.min(low + 1, high), Math.max(high - 1, low), high}) {
+            BoatRuns x = made.get();
+            same("with " + inside, thrown(() -> call.run(x, inside)), "nothing");
         }
-        all.append('|').append(shore(x)).append('|').append(x.nextThrown());
-        all.append(' ').append(x.runsIfEmptied()).append(' ').append(x.costByWeight());
-        all.append(' ').append(x.costByNumber()).append(' ').append(x.runsWith(1));
-        all.append(' ').append(x.leastRoom()).append(' ').append(x.inversions());
-        return all.toString();
+        for (int outside : new int[] {low - 1, high + 1, -high - 1, Integer.MIN_VALUE, Integer.MAX_VALUE}) {
+            refusedOn("with " + outside, made, due, x -> call.run(x, outside));
+        }
     }
 
     static String values(BoatRuns x) {
@@ -124,6 +148,37 @@ final class Check {
         for (int i = 0; i < text.length(); i++) {
             x.append(text.charAt(i));
         }
+    }
+
+    /** A boat of four with so many parcels loaded, at most 120, by few calls. */
+    static BoatRuns loaded(int parcels) {
+        BoatRuns x = new BoatRuns();
+        for (int left = parcels; left > 0; left -= 60) {
+            x.loadDrawn(parcels, Math.min(left, 60), 1000);
+        }
+        return x;
+    }
+
+    /**
+     * A boat of two with parcels 6 and 7 in it, the open run 2 of parcels 5 and 4, run 1 of parcels 3
+     * and 2, parcels 1 and 0 ashore, four saved states, and a text.
+     */
+    static BoatRuns busy() {
+        BoatRuns x = new BoatRuns();
+        x.begin(2);
+        x.load(30, 7);
+        x.load(10, 8);
+        x.empty();
+        x.land(0);
+        x.load(60, 1);
+        x.load(50, 2);
+        x.empty();
+        x.load(80, 3);
+        x.load(40, 4);
+        x.load(90, 5);
+        x.load(85, 6);
+        write(x, "p7,7;e;l;");
+        return x;
     }
 
     static int carryOut(BoatRuns x, String text) {

@@ -240,13 +240,14 @@ public final class TextTest {
         Check.same("26: 100 bytes that end too early", Check.carryOut(x, "e;".repeat(48) + "p1,1"), -110);
         Check.same("26: an error at the last byte", Check.carryOut(x, "e;".repeat(49) + "l,"), -109);
         Check.same("26: out of range at the end", Check.carryOut(x, "e;".repeat(48) + "p1,0"), -109);
-        x.begin(12);
-        x.loadDrawn(1, 60, 1000);
-        x.empty();
-        Check.same("26: 33 storms", Check.carryOut(x, "s9;".repeat(33)), 33);
-        Check.same("26: 60 runs", x.value(3), 60);
-        Check.same("26: 50 merges", Check.carryOut(x, "l;".repeat(50)), 50);
-        Check.same("26: 10 runs are left", x.value(3), 10);
-        Check.same("26: up to the last one", x.carryOut(), 9);
+        BoatRuns stormy = new BoatRuns();
+        stormy.begin(12);
+        stormy.loadDrawn(1, 60, 1000);
+        stormy.empty();
+        Check.same("26: 33 storms", Check.carryOut(stormy, "s9;".repeat(33)), 33);
+        Check.same("26: 60 runs", stormy.value(3), 60);
+        Check.same("26: 50 merges", Check.carryOut(stormy, "l;".repeat(50)), 50);
+        Check.same("26: 10 runs are left", stormy.value(3), 10);
+        Check.same("26: up to the last one", stormy.carryOut(), 9);
     }
 }
