@@ -102,10 +102,13 @@ final class BoatBoundaries {
         Check.same("all is there again", x.value(2), 8);
         BoatRuns run = boat(1);
         Check.loadKeys(run, 10, 20);
+        run.tighten(0);
         run.begin(1);
-        Check.loadKeys(run, 30, 40);
-        Check.same("the first float is 0 again, at strength 5", Check.run(run, 0), "1 1 5 30 30 1");
-        Check.same("the first parcel is 0 again", Check.row(run, 0), "0");
+        run.load(30, 7);
+        run.load(40, 8);
+        Check.same("the first parcel is 0 again", Check.parcel(run, 0), "30 7 1 0 0");
+        Check.same("the next one is 1", Check.parcel(run, 1), "40 8 0 -1 -1");
+        Check.same("the first float is 0 again, at strength 5", Check.run(run, 0), "1 7 5 30 30 1");
     }
 
     private static void rooms() {
