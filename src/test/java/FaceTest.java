@@ -1,12 +1,17 @@
+import java.io.IOException;
 import java.lang.reflect.Field;
 import java.lang.reflect.Member;
 import java.lang.reflect.Method;
 import java.lang.reflect.Modifier;
+import java.nio.file.Files;
+import java.nio.file.Path;
 import java.util.ArrayList;
 import java.util.List;
 import java.util.TreeSet;
+import java.util.regex.Matcher;
+import java.util.regex.Pattern;
 
-/** The public face, as the document has it, and nothing else. */
+/** The public face, as the document has it, and nothing else. Run it in the project's root. */
 public final class FaceTest {
     private static final String[] FACE = {
         "int begin(int) IllegalArgumentException",
@@ -38,7 +43,14 @@ public final class FaceTest {
         "long digest()",
     };
 
-    public static void main(String[] args) {
+    /** The calls in the order of the document, with what it says ahead of them. */
+    private static final String SECTIONS = "boat: begin load loadDrawn empty merge mergeLightest storm tighten land "
+            + "values: parcel run inRun ashore runAt value "
+            + "what if: nextThrown runsIfEmptied costByWeight costByNumber runsWith leastRoom inversions "
+            + "text: append clearText carryOut "
+            + "state: undo digest ";
+
+    public static void main(String[] args) throws IOException {
         Class<?> face = BoatRuns.class;
         Check.isTrue("public final", Modifier.isPublic(face.getModifiers()) && Modifier.isFinal(face.getModifiers()));
         Check.same("the package", face.getPackageName(), "");
@@ -49,7 +61,18 @@ public final class FaceTest {
         Check.same("all constructors", face.getDeclaredConstructors().length, 1);
         Check.same("its arguments", face.getConstructors()[0].getParameterCount(), 0);
         namesInside(face);
+        Check.same("sections", sections(), SECTIONS);
         Check.finish();
+    }
+
+    private static String sections() throws IOException {
+        String code = Files.readString(Path.of("src/main/java/BoatRuns.java"));
+        Matcher matcher = Pattern.compile("(?m)^ {4}(?:// ---- (.*)|public (?:int|long) (\\w+)\\(.*)$").matcher(code);
+        StringBuilder all = new StringBuilder();
+        while (matcher.find()) {
+            all.append(matcher.group(1) != null ? matcher.group(1) + ":" : matcher.group(2)).append(' ');
+        }
+        return all.toString();
     }
 
     private static String methods(Class<?> face) {

@@ -291,6 +291,8 @@ final class TextBoundaries {
         error("m1234", 4);
         error("m1+1234", 6);
         error("s12", 2);
+        error("s0", 1);
+        error("s00", 1);
         error("p1+1;", 2);
         error("m1,1;", 2);
         error("p1,1,", 4);
@@ -334,6 +336,9 @@ final class TextBoundaries {
             error("p1," + weight + ";x", 3);
             error("p1," + weight + ";p1,0;", 3);
         }
+        error("p1,99", 3);
+        error("p1,990", 5);
+        error("p1,990;", 5);
         error("x;p1,0;", 0);
         error("p1,1;p1,51;p1,0;", 8);
         for (String weight : new String[] {"1", "01", "9", "09", "10", "49", "50"}) {
